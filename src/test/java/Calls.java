@@ -56,13 +56,10 @@ final class Calls {
         return Integer.valueOf(word);
     }
 
-    /** All that questions tell of a contest; what is typed is told by the wiping, at the end. */
+    /** All that is told of a contest by questions, and then by calls that use what is typed, the last minute and all. */
     static String allOf(Object contest) {
         StringBuilder all = new StringBuilder();
-        String[] plain = {"kept()", "calledBack()", "acceptedShare()", "meanSteps()", "checksum()", "isTrue()"};
-        for (String call : plain) {
-            all.append(answer(contest, call)).append(' ');
-        }
+        addPlain(contest, all);
         for (int i = 0; i < 5; i++) {
             all.append(answer(contest, "tests(" + i + ")")).append(' ');
         }
@@ -72,11 +69,41 @@ final class Calls {
             all.append(answer(contest, "inStock(" + colour + ")")).append(answer(contest, "out(" + colour + ")"));
             addUntilThrown(contest, all, "waiting(" + colour + ", ", ")");
         }
-        String[] last = {"wipe(true)", "wipe(false)", "freeze(0)", "team()", "problem(0, 1)"};
+        addTyped(contest, all);
+        String[] last = {"wipe(false)", "freeze(0)", "team()", "problem(0, 1)"};
         for (String call : last) {
             all.append(answer(contest, call)).append(' ');
         }
         return all.toString();
+    }
+
+    private static void addPlain(Object contest, StringBuilder all) {
+        String[] plain = {"kept()", "calledBack()", "acceptedShare()", "meanSteps()", "checksum()", "isTrue()"};
+        for (String call : plain) {
+            all.append(answer(contest, call)).append(' ');
+        }
+    }
+
+    /** The typed program is submitted at the first minute that is taken; the typed numbers come into a test. */
+    private static void addTyped(Object contest, StringBuilder all) {
+        int minute = 0;
+        String submitted = answer(contest, "submit(0, 0, 0)");
+        while (submitted.equals("throws IllegalArgumentException") && minute < 1000) {
+            minute++;
+            submitted = answer(contest, "submit(0, 0, " + minute + ")");
+        }
+        all.append(minute).append(' ').append(submitted).append(' ');
+        addRuns(contest, all);
+        all.append(answer(contest, answer(contest, "tests(0)").equals("6") ? "fix(0, 0)" : "test(0)")).append(' ');
+        addRuns(contest, all);
+        all.append(answer(contest, "wipe(true)")).append(' ');
+        for (int i = 0; i < 4; i++) {
+            answer(contest, "step('i', 0, 0)");
+            answer(contest, "step('o', 0, 0)");
+        }
+        all.append(answer(contest, "submit(0, 0, " + minute + ")")).append(' ');
+        addRuns(contest, all);
+        addPlain(contest, all);
     }
 
     private static void addRuns(Object contest, StringBuilder all) {

@@ -3,6 +3,7 @@ import java.util.ArrayList;
 import java.util.List;
 
 /** isTrue sees each kind of damage that promise 35 names; from outside none can be done, so it is done to the fields. */
+// Promise 35: "Returns whether all of it holds."
 public final class DamageTest {
     private static final List<String> wrong = new ArrayList<>();
     private static int asked = 0;

@@ -44,6 +44,8 @@ public final class FullTest {
         }
     }
 
+    // Promise 17: "Returns how many."
+    // All 240 that there can be.
     private static List<String> outputs() {
         List<String> calls = new ArrayList<>();
         addTeamsAndProblems(calls, 400);
