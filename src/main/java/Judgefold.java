@@ -194,7 +194,7 @@ public final class Judgefold {
         if (!hasTestOfRun(run, test)) {
             throw new IndexOutOfBoundsException();
         }
-        return store.sizes[runs[run].slots[test]];
+        return store.sizeOf(runs[run].slots[test]);
     }
 
     public int output(int run, int test, int index) throws IndexOutOfBoundsException, NoSuchElementException {
@@ -202,7 +202,7 @@ public final class Judgefold {
             throw new IndexOutOfBoundsException();
         }
         int slot = runs[run].slots[test];
-        if (!isWithin(index, 0, store.sizes[slot] - 1)) {
+        if (!isWithin(index, 0, store.sizeOf(slot) - 1)) {
             throw new NoSuchElementException();
         }
         return store.numberAt(slot, index);
@@ -216,7 +216,7 @@ public final class Judgefold {
         if (!hasTestOfRun(run, test)) {
             throw new IndexOutOfBoundsException();
         }
-        return store.users[runs[run].slots[test]];
+        return store.usersOf(runs[run].slots[test]);
     }
 
     public int stock(int colour, int many) throws IllegalArgumentException {
@@ -809,7 +809,7 @@ public final class Judgefold {
         }
 
         void release(int slot) {
-            if (slot == NONE) {
+            if (slot < 0 || slot >= SLOTS) {
                 return;
             }
             users[slot]--;
@@ -818,12 +818,21 @@ public final class Judgefold {
             }
         }
 
+        // A test that was not judged yet has the slot NONE, and so nothing in it.
+        int sizeOf(int slot) {
+            return slot < 0 || slot >= SLOTS ? 0 : sizes[slot];
+        }
+
+        int usersOf(int slot) {
+            return slot < 0 || slot >= SLOTS ? 0 : users[slot];
+        }
+
         int numberAt(int slot, int index) {
             return numbers[slot * MAX_OUTPUT + index];
         }
 
         boolean isAlike(int slot, int[] output, int size) {
-            if (sizes[slot] != size) {
+            if (sizeOf(slot) != size) {
                 return false;
             }
             for (int i = 0; i < size; i++) {
@@ -836,7 +845,7 @@ public final class Judgefold {
 
         long addTo(long sum, int slot) {
             long added = sum;
-            for (int i = 0; i < sizes[slot]; i++) {
+            for (int i = 0; i < sizeOf(slot); i++) {
                 added = 31 * added + numberAt(slot, i);
             }
             return added;
